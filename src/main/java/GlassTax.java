@@ -1153,7 +1153,7 @@ public final class GlassTax {
             use = forUse;
             draft.length = 0;
             draft.isThere = true;
-            return readLevel(0, 0) && place >= length ? -1 : place;
+            return readPart(0, 0) && place >= length ? -1 : place;
         }
 
         private int signHere() {
@@ -1164,17 +1164,18 @@ public final class GlassTax {
         }
 
         /** Reads what stands at a level, while so many of ! and ( are open; false: the FAULT is at place. */
+        private boolean readPart(int level, int open) {
+            return level >= UNIT ? readUnit(open) : readLevel(level, open);
+        }
+
         private boolean readLevel(int level, int open) {
-            if (level >= UNIT) {
-                return readUnit(open);
-            }
-            if (!readLevel(level + 1, open)) {
+            if (!readPart(level + 1, open)) {
                 return false;
             }
             for (int i = 0; i < TAPE_BYTES && levelOf(signHere()) == level; i++) {
                 int sign = signHere();
                 place++;
-                if (!readLevel(level + 1, open)) {
+                if (!readPart(level + 1, open)) {
                     return false;
                 }
                 draft.add(-sign);
@@ -1212,7 +1213,7 @@ public final class GlassTax {
                 draft.add(-sign);
                 return isRead;
             }
-            if (!readLevel(0, open) || signHere() != ')') {
+            if (!readPart(0, open) || signHere() != ')') {
                 return false;
             }
             place++;
@@ -1318,16 +1319,12 @@ public final class GlassTax {
                     return sayGlass(body, x, deep + 1);
                 case 2:
                     return saySpoon(body, x, deep + 1);
-                case 3:
-                    return 0 - say(GLASS, GLINTS, x, deep + 1);
-                case 4:
-                    return say(GLASS, FADES, x / 2, deep + 1);
                 case 5:
                     return sayBowl(body, x, deep + 1);
-                case 6:
-                    return say(PANE, GLINTS, x + 1, deep + 1);
+                case 7:
+                    return saySilvered(body, x, deep + 1);
                 default:
-                    return body == 70 ? 9 : say(GLASS, GLINTS, x, deep + 1) + m;
+                    return sayOnly(body, x, deep + 1);
             }
         }
 
@@ -1340,8 +1337,9 @@ public final class GlassTax {
                 case 12:
                     return say(kind, GLINTS, x, deep) - m;
                 default:
-                    isParted = m == number;
-                    return m == number ? 0 : x / (m - number);
+                    int by = m - number;
+                    isParted = by == 0;
+                    return by == 0 ? 0 : x / by;
             }
         }
 
@@ -1358,6 +1356,24 @@ public final class GlassTax {
                 return say(SPOON, GLEAMS, x, deep) * 3;
             }
             return say(SPOON, FADES, x, deep) ^ number;
+        }
+
+        private int saySilvered(int body, int x, int deep) {
+            return body == 70 ? 9 : say(GLASS, GLINTS, x, deep) + m;
+        }
+
+        /** The BODIES of KINDS that have one only. */
+        private int sayOnly(int body, int x, int deep) {
+            switch (body) {
+                case 30:
+                    return 0 - say(GLASS, GLINTS, x, deep);
+                case 40:
+                    return say(GLASS, FADES, x / 2, deep);
+                case 60:
+                    return say(PANE, GLINTS, x + 1, deep);
+                default:
+                    return 0;
+            }
         }
 
         private static int bodyFrom(int from, int voice) {

@@ -4,7 +4,7 @@ import java.lang.reflect.Modifier;
 import java.util.Random;
 import java.util.TreeSet;
 
-/** The public face is the document's, and no call of it throws, or changes anything by an ERROR, whatever it is given. */
+/** The public face is the document's, and no call of it throws, whatever it is given. */
 public final class AnythingTest {
     private static final String FACE = "as:2 at:3 become:2 body:1 check:0 count:1 feed:2 fits:2 glass:3 glassIs:2 hang:2 hour:1 "
         + "hours:1 image:0 judge:1 law:4 look:3 loose:1 move:5 odds:1 pay:2 person:2 personIs:2 put:3 restore:0 seed:1 "

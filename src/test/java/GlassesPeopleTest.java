@@ -193,6 +193,7 @@ public final class GlassesPeopleTest {
         Due.is("TURN", x.glassIs(0, 3), 0);
         Due.is("hang, own cell", x.hang(0, 7), 7);
         Due.is("hang, another there", x.hang(0, 8), Due.STATE);
+        Due.is("hang, the first there", x.hang(1, 7), Due.STATE);
         Due.is("hang", x.hang(0, 63), 7);
         Due.is("hang", x.hang(1, 7), 8);
         Due.is("CELL", x.glassIs(0, 2), 63);

@@ -27,6 +27,8 @@ public final class HoursTest {
         Due.is("hours", x.hours(8), 9998);
         Due.is("loose", x.loose(1), 9999);
         Due.is("loose above", x.loose(1), Due.STATE);
+        x.hour(9951);
+        Due.is("hours to the last", x.hours(48), 9999);
         Due.is("without PEOPLE no draws", x.count(6), 1);
     }
 

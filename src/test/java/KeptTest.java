@@ -3,6 +3,7 @@ public final class KeptTest {
     public static void main(String[] args) {
         image();
         imageOfTexts();
+        imageOfWaiting();
         tell();
         count();
         told();
@@ -73,6 +74,25 @@ public final class KeptTest {
         Due.is("untell", x.untell(0), 1);
         x.restore();
         Due.is("untell", x.untell(0), 1);
+    }
+
+    private static void imageOfWaiting() {
+        GlassTax x = new GlassTax();
+        x.person(0, 0);
+        x.tell(0);
+        x.tell(5);
+        Due.feed(x, "7*k");
+        x.image();
+        Due.is("check", x.check(), 2);
+        x.tell(3);
+        Due.is("check", x.check(), 1);
+        x.text(0);
+        Due.is("text", Due.text(x, 0, "+++"), -10);
+        x.restore();
+        Due.is("count", x.count(4), 2);
+        Due.is("the same numbers", x.check(), 2);
+        Due.is("the same bytes", x.text(0), 1);
+        Due.is("the same bytes", x.law(0, 0, 9, 0), 63);
     }
 
     private static void tell() {

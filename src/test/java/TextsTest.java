@@ -3,6 +3,7 @@ public final class TextsTest {
     public static void main(String[] args) {
         feed();
         texts();
+        manyTexts();
         signs();
         faults();
         open();
@@ -54,6 +55,14 @@ public final class TextsTest {
         Due.is("law", x.law(1, 50, 0, 0), 50);
         Due.is("empty tape", x.text(0), -10);
         Due.is("faults are no ERRORS", x.told(1), 4);
+    }
+
+    private static void manyTexts() {
+        GlassTax x = new GlassTax();
+        for (int i = 0; i < 10; i++) {
+            Due.is("text " + i, Due.text(x, i % 2, "1+2+3+4+5+6+7+8+" + i), 1);
+            Due.is("law " + i, x.law(i % 2, 0, 0, 0), 36 + i);
+        }
     }
 
     private static void signs() {

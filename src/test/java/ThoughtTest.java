@@ -224,8 +224,23 @@ public final class ThoughtTest {
         Due.is("one glass", x.spins(0, 62, 1), 3);
         x.glass(0, 13, 0);
         Due.is("three", x.spins(0, 15, -1), Due.NONE);
+        firstGlassAndTurn();
         for (int i = 0; i < 4; i++) {
             Due.is("only thought", x.glassIs(i, 3), new int[] {2, 1, 0, 0}[i]);
+        }
+    }
+
+    private static void firstGlassAndTurn() {
+        GlassTax x = new GlassTax();
+        x.person(8, 1);
+        x.glass(0, 10, 2);
+        Due.is("turn 0", x.spins(0, 2, -1), 1);
+        Due.is("turn 0", x.spins(0, 2, 1), 0);
+        x.glass(0, 13, 1);
+        Due.is("the first and the second", x.spins(0, 5, -1), 2);
+        int[] row = {0, 3, 1, 0};
+        for (int i = 0; i < 4; i++) {
+            Due.is("the first and the second, " + i, x.spins(0, 5, i), row[i]);
         }
     }
 
@@ -260,6 +275,9 @@ public final class ThoughtTest {
         x.put(0, 0, 9);
         Due.is("one cell", x.fits(0, 0), 4);
         Due.is("the least", x.fits(0, 1), 36);
+        x.sheet(1, 32, 0);
+        Due.is("no number", x.fits(1, 0), 256);
+        Due.is("no number", x.fits(1, 1), 0);
         x.put(0, 0, 64);
         Due.is("no cell", x.fits(0, 0), 0);
         Due.is("no cell", x.fits(0, 1), Due.NONE);
@@ -277,6 +295,11 @@ public final class ThoughtTest {
             x.put(2, i, i % 8);
         }
         Due.is("more than there is", x.fits(2, 0), 0);
+        x.sheet(2, 8, 3);
+        for (int i = 0; i < 3; i++) {
+            x.put(2, i, 47 + 8 * i);
+        }
+        Due.is("all of it", x.fits(2, 1), 4 * 47 + 2);
         x.sheet(3, 8, 24);
         x.glass(30, 4, 0);
         for (int i = 0; i < 24; i++) {
