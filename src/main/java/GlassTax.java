@@ -424,11 +424,7 @@ public final class GlassTax {
             return error(BEYOND);
         }
         int said = voices.answer(one, glass, voice, x);
-        if (voices.isParted) {
-            return error(PARTED);
-        }
-        voices.keepTrace();
-        return said;
+        return voices.isParted ? error(PARTED) : said;
     }
 
     public int body(int i) {
@@ -1276,11 +1272,9 @@ public final class GlassTax {
             0, 60, 0, 0,
             70, 71, 0, 0,
         };
-        /** THE TRACE, apart from what begins now: a voice() that is PARTED leaves it as it was. */
+        /** THE TRACE is written as the BODIES begin, so that one that is PARTED leaves those that began. */
         final int[] trace = new int[MOST_TRACED];
-        final int[] begun = new int[MOST_TRACED];
         int traced;
-        int begins;
         boolean isParted;
         private int kind;
         private int number;
@@ -1290,18 +1284,13 @@ public final class GlassTax {
             kind = glass.kind;
             number = glassNumber;
             m = glass.m;
-            begins = 0;
+            traced = 0;
             isParted = false;
             return say(kind, voice, x, 0);
         }
 
-        void keepTrace() {
-            System.arraycopy(begun, 0, trace, 0, trace.length);
-            traced = begins;
-        }
-
         int tracedAt(int i) {
-            return i < 0 || i >= trace.length ? 0 : trace[i];
+            return i < 0 || i >= traced || i >= trace.length ? 0 : trace[i];
         }
 
         /** A VOICE from a KIND on: its BODY there, or that of the next KIND above that has one. */
@@ -1310,9 +1299,9 @@ public final class GlassTax {
                 return 0;
             }
             int body = bodyFrom(from, voice);
-            if (begins >= 0 && begins < begun.length) {
-                begun[begins] = body;
-                begins++;
+            if (traced >= 0 && traced < trace.length) {
+                trace[traced] = body;
+                traced++;
             }
             switch (body / 10) {
                 case 1:

@@ -68,7 +68,7 @@ public final class ModelTest {
     }
 
     private void step() throws Exception {
-        switch (random.nextInt(24)) {
+        switch (random.nextInt(25)) {
             case 0:
                 tellText();
                 return;
@@ -83,6 +83,9 @@ public final class ModelTest {
                 return;
             case 4:
                 tellTurns();
+                return;
+            case 5:
+                tellTrace();
                 return;
             default:
                 String[] act = ACTS[random.nextInt(ACTS.length)].split(" ");
@@ -175,6 +178,20 @@ public final class ModelTest {
             ask("put", sheet, i, random.nextInt(20) == 0 ? 4 : random.nextInt(4));
         }
         ask("turnsOf", sheet);
+    }
+
+    /** A voice(), which is PARTED in half of the runs, and THE TRACE. */
+    private void tellTrace() throws Exception {
+        int glass = random.nextInt(8);
+        boolean isToPart = random.nextBoolean();
+        if (isToPart) {
+            ask("become", glass, 10 * random.nextInt(7) + glass);
+        }
+        ask("voice", glass, isToPart ? 3 : random.nextInt(4), random.nextInt());
+        int many = ask("count", 5);
+        for (int i = 0; i <= many; i++) {
+            ask("body", i);
+        }
     }
 
     private int ask(String act, long... a) throws Exception {

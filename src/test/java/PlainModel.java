@@ -634,6 +634,7 @@ public final class PlainModel {
         mirror.k = glass;
         mirror.m = g[1];
         mirror.begun = begun;
+        trace = begun;
         int said;
         try {
             said = voice == 0 ? mirror.gleams(x) : voice == 1 ? mirror.glints(x) : voice == 2 ? mirror.fades(x)
@@ -641,7 +642,6 @@ public final class PlainModel {
         } catch (ArithmeticException e) {
             throw new Wrong(6);
         }
-        trace = begun;
         return said;
     }
 

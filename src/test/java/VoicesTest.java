@@ -5,6 +5,7 @@ public final class VoicesTest {
         bodies();
         wraps();
         parted();
+        partedTraces();
         Due.end();
     }
 
@@ -82,11 +83,11 @@ public final class VoicesTest {
         x.voice(2, 2, 0);
         Due.is("count", x.count(5), 3);
         x.become(2, 12);
+        Due.is("no GLASS", x.voice(3, 0, 5), Due.BEYOND);
+        Due.is("no VOICE", x.voice(2, 4, 5), Due.BEYOND);
+        Due.is("BEYOND leaves THE TRACE", x.count(5), 3);
+        Due.is("BEYOND leaves THE TRACE", x.body(0), 12);
         Due.is("PARTED", x.voice(2, 3, 5), Due.PARTED);
-        Due.is("an ERROR leaves THE TRACE", x.count(5), 3);
-        Due.is("an ERROR leaves THE TRACE", x.body(0), 12);
-        Due.is("BEYOND, too", x.voice(2, 4, 5), Due.BEYOND);
-        Due.is("BEYOND, too", x.count(5), 3);
         Due.is("told PARTED", x.told(6), 1);
         x.become(2, 2);
         Due.is("PARTED", x.voice(2, 3, 0), Due.PARTED);
@@ -96,5 +97,27 @@ public final class VoicesTest {
         Due.is("told PARTED", x.told(6), 3);
         Due.is("count", x.count(5), 3);
         Due.is("body", x.body(0), 50);
+    }
+
+    /** THE TRACE of one that is PARTED: what began, up to the BODY that parts. */
+    private static void partedTraces() {
+        int[][] traces = {{13}, {21, 13}, {13}, {13}, {21, 13}, {13}, {13}};
+        for (int kind = 0; kind < 7; kind++) {
+            GlassTax x = third(kind);
+            x.voice(2, 2, 10);
+            x.become(2, 10 * kind + 2);
+            Due.is("PARTED", x.voice(2, 3, 10), Due.PARTED);
+            int[] trace = traces[kind];
+            Due.is("kind " + kind + " bodies of one PARTED", x.count(5), trace.length);
+            for (int i = 0; i < trace.length; i++) {
+                Due.is("kind " + kind + " parted body " + i, x.body(i), trace[i]);
+            }
+            Due.is("no more", x.body(trace.length), Due.NONE);
+            Due.is("BEYOND", x.voice(2, 4, 10), Due.BEYOND);
+            Due.is("BEYOND leaves THE TRACE", x.body(0), trace[0]);
+            x.image();
+            x.restore();
+            Due.is("restore leaves THE TRACE", x.count(5), trace.length);
+        }
     }
 }
