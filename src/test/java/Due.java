@@ -10,16 +10,31 @@ final class Due {
 
     private static int wrong = 0;
     private static int asked = 0;
+    private static String said = "";
 
     private Due() {
+    }
+
+    /** What follows is for a sentence of a promise (of the Terms: 0), word by word as the document has it. */
+    static void says(int promise, String sentence) {
+        said = (promise == Doc.TERMS ? "Terms" : "promise " + promise) + ", '" + sentence + "': ";
+        is("the document has this sentence", Doc.quote(promise, sentence) ? 1 : 0, 1);
     }
 
     static void is(String call, long got, long want) {
         asked++;
         if (got != want) {
             wrong++;
-            System.out.println(call + " answered " + got + ", due is " + want);
+            System.out.println(said + call + " answered " + got + ", due is " + want);
         }
+    }
+
+    static void isText(String call, String got, String want) {
+        is(call + " (" + got + ", due is " + want + ")", got.equals(want) ? 1 : 0, 1);
+    }
+
+    static void isTrue(String call, boolean holds) {
+        is(call, holds ? 1 : 0, 1);
     }
 
     static void end() {
@@ -38,8 +53,22 @@ final class Due {
         return many;
     }
 
+    /** Feeds a text by eight bytes a call, where calls are dear. */
+    static int feedWords(GlassTax x, String text) {
+        int many = 0;
+        for (int i = 0; i < text.length(); i += 8) {
+            long word = 0;
+            int n = Math.min(8, text.length() - i);
+            for (int j = n - 1; j >= 0; j--) {
+                word = word << 8 | text.charAt(i + j);
+            }
+            many = x.feed(word, n);
+        }
+        return many;
+    }
+
     static int text(GlassTax x, int use, String text) {
-        feed(x, text);
+        feedWords(x, text);
         return x.text(use);
     }
 
