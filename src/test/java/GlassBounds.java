@@ -338,6 +338,7 @@ final class GlassBounds {
         Due.is("the same again", x.become(0, 0), 0);
         Due.is("CELL", x.glassIs(0, 2), 2);
         Due.is("TURN", x.glassIs(0, 3), 1);
+        Due.is("SEEN", x.glassIs(0, 4), 1);
         Due.says(5, "BEYOND.");
         Due.is("km -1", x.become(0, -1), Due.BEYOND);
         Due.is("km 70", x.become(0, 70), Due.BEYOND);

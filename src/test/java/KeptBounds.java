@@ -34,7 +34,7 @@ final class KeptBounds {
         Due.is("in place of one ahead", x.restore(), 7);
     }
 
-    /** Every part of all that is kept is told ahead of the IMAGE and changed behind it. */
+    /** Every part of all that is kept is told ahead of the IMAGE and changed behind it, and again behind its restore. */
     private static void imageKeepsAll() {
         GlassTax x = new GlassTax();
         x.glass(34, 2, 1);
@@ -49,7 +49,24 @@ final class KeptBounds {
         x.tell(11);
         x.tell(3);
         Due.feed(x, "7*k");
-        x.image();
+        Due.is("image", x.image(), 1);
+        // What is kept stays as it is, too: only the IMAGE is another one.
+        holdsAll(x);
+        for (int i = 0; i < 3; i++) {
+            changeAll(x);
+            Due.is("restore", x.restore(), 3);
+            holdsAll(x);
+        }
+        x.restore();
+        Due.is("no TEXT of DUE by these bytes", x.text(1), -12);
+        x.restore();
+        Due.is("the CELL of what came behind the IMAGE is free", x.glass(0, 1, 0), 2);
+        Due.is("the CELL of what was there is not", x.glass(0, 2, 0), Due.STATE);
+        x.restore();
+        Due.is("looks go by where they hang again", x.look(18, 0, 3), 5);
+    }
+
+    private static void changeAll(GlassTax x) {
         x.become(0, 59);
         x.spin(0, 0);
         x.hang(0, 1);
@@ -58,13 +75,17 @@ final class KeptBounds {
         x.person(5, 0);
         x.hours(5);
         x.pay(1, 1);
-        x.tell(5);
         x.check();
-        Due.feed(x, "+1");
+        x.tell(5);
+        x.tell(5);
+        x.tell(5);
         x.text(0);
+        Due.feed(x, "!!!!");
         x.untell(1);
         x.loose(2);
-        Due.is("restore", x.restore(), 3);
+    }
+
+    private static void holdsAll(GlassTax x) {
         int[][] glasses = {{3, 4, 2, 1, 3}, {0, 0, 63, 3, 0}};
         int[][] people = {{0, 1, 11, 5}, {63, 2, 3, 1}};
         int[] counts = {2, 2, 3, 3, 2};
@@ -83,14 +104,8 @@ final class KeptBounds {
         Due.is("FEE", x.law(0, 1, 2, 3), 4);
         Due.is("DUE", x.law(1, 5, 2, 3), 8);
         Due.is("the numbers that wait", x.check(), 0);
-        Due.is("the bytes", x.text(1), -12);
-        x.restore();
         Due.is("the bytes", x.text(0), 1);
         Due.is("the bytes", x.law(0, 0, 9, 0), 63);
-        Due.is("the CELL of what came behind the IMAGE is free", x.glass(0, 1, 0), 2);
-        Due.is("the CELL of what was there is not", x.glass(0, 2, 0), Due.STATE);
-        x.restore();
-        Due.is("looks go by where they hang again", x.look(18, 0, 3), 5);
     }
 
     private static void imageKeepsNot() {

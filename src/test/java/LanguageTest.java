@@ -25,6 +25,7 @@ public final class LanguageTest {
         String source = new String(Files.readAllBytes(Path.of(SOURCE)), StandardCharsets.UTF_8);
         String code = source.replaceAll("(?s)/\\*.*?\\*/", "").replaceAll("//[^\n]*", "").replaceAll("\"[^\"\n]*\"", "\"\"");
         words(code);
+        headings(source);
         methodsAreShort(code);
         classes();
         room();
@@ -41,6 +42,26 @@ public final class LanguageTest {
             Due.is(imports.group(), imports.group().equals("import java.util.Arrays;") ? 1 : 0, 1);
         }
         Due.is("signs above 126", code.chars().filter(c -> c > 126 || c == '\t').count(), 0);
+    }
+
+    /** "Ahead of the calls .. the interface says: ..": the same comments stand ahead of the same calls in the source. */
+    private static void headings(String source) throws Exception {
+        String document = new String(Files.readAllBytes(Path.of("../shared/DOC.md")), StandardCharsets.UTF_8);
+        Matcher m = Pattern.compile("Ahead of the calls (.*) the interface says: (.*)\\.\n").matcher(document);
+        int found = 0;
+        while (m.find()) {
+            found++;
+            int from = source.indexOf("    // " + m.group(2) + "\n");
+            int to = source.indexOf("    // ----", from + 1);
+            Due.is("there is the comment " + m.group(2), from >= 0 && to > from ? 1 : 0, 1);
+            StringBuilder calls = new StringBuilder();
+            Matcher call = Pattern.compile("public int (\\w+)\\(").matcher(from < 0 || to < from ? "" : source.substring(from, to));
+            while (call.find()) {
+                calls.append(calls.length() == 0 ? "`" : ", `").append(call.group(1)).append('`');
+            }
+            Due.isText("calls behind " + m.group(2), calls.toString(), m.group(1));
+        }
+        Due.is("comments", found, 5);
     }
 
     private static void methodsAreShort(String code) {

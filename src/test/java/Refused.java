@@ -81,6 +81,15 @@ final class Refused {
         "move 0 0 0 0 8", "move 0 8 0 8 0", "judge 0", "judge 2", "count 0", "told 1",
     };
 
+    private static final String[] STILL_IN_FULL = {
+        "look 6 1 3", "at 6 1 256", "spins 5 55 -1", "spins 5 55 1", "then 0 0", "then 5 48", "sees 5", "odds 1", "starts 6 0",
+        "fits 0 0", "judge 0", "law 1 999 23 5", "throwsOn 7 0", "hang 7 62", "turnsOf 1",
+    };
+
+    /** Two GLASSES that must both be turned. */
+    private static final String[] TWO = {"person 8 1", "glass 0 10 0", "glass 0 13 0"};
+    private static final String[] STILL_IN_TWO = {"spins 0 15 -1", "spins 0 15 3", "spins 0 5 0", "spins 0 8 -1"};
+
     private Refused() {
     }
 
@@ -91,9 +100,9 @@ final class Refused {
         refuse(SOME, IN_SOME);
         refuse(FULL, IN_FULL);
         refuse(NEW, IN_NEW);
-        for (String call : STILL) {
-            twins(SOME, call, 0);
-        }
+        still(SOME, STILL);
+        still(FULL, STILL_IN_FULL);
+        still(TWO, STILL_IN_TWO);
     }
 
     private static String[] full() {
@@ -102,6 +111,10 @@ final class Refused {
         int[] kms = {9, 30, 30, 24, 13, 41, 53, 66};
         for (int i = 0; i < 8; i++) {
             calls.add("glass " + kms[i] + " " + cells[i] + " " + i % 4);
+        }
+        calls.add("sheet 1 32 8");
+        for (int i = 0; i < 8; i++) {
+            calls.add("put 1 " + i + " " + i % 4);
         }
         for (int i = 0; i < 6; i++) {
             calls.add("person " + 9 * i + " " + i % 4);
@@ -126,6 +139,12 @@ final class Refused {
     private static void refuse(String[] begins, String[][] calls) {
         for (String[] row : calls) {
             twins(begins, row[0], error(row[1]));
+        }
+    }
+
+    private static void still(String[] begins, String[] calls) {
+        for (String call : calls) {
+            twins(begins, call, 0);
         }
     }
 

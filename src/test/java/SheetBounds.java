@@ -296,6 +296,11 @@ final class SheetBounds {
         }
         x.put(0, 0, 4);
         Due.is("right at first, then wrong", x.judge(0), 1);
+        putAll(x, 0, 4, 4, 1, 0, 0, 0);
+        Due.is("the third alone is wrong", x.judge(0), 2);
+        putAll(x, 0, 3, 4, 0, 0, 0, 0);
+        Due.is("the first alone is wrong", x.judge(0), 0);
+        putAll(x, 0, 5, 5, 1, 1, 1, 1);
         x.sheet(1, 16, 2);
         putAll(x, 1, 4, 4);
         Due.is("fewer numbers than PEOPLE", x.judge(1), 2);

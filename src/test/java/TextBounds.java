@@ -214,15 +214,16 @@ final class TextBounds {
     private static void signs() {
         Due.says(0, "| & < = > ! are 1 or 0, what is not 0 being true; all is worked out.");
         int[] values = {Integer.MIN_VALUE, -2, -1, 0, 1, 2, Integer.MAX_VALUE};
+        // 5 more, so that one below 0 is told from 0.
         for (int a : values) {
-            Due.is("!" + a, Due.due("!t", a, 0, 0), a == 0 ? 1 : 0);
-            Due.is("!!" + a, Due.due("!!t", a, 0, 0), a == 0 ? 0 : 1);
+            Due.is("!" + a, Due.due("5+!t", a, 0, 0), a == 0 ? 6 : 5);
+            Due.is("!!" + a, Due.due("5+!!t", a, 0, 0), a == 0 ? 5 : 6);
             for (int b : values) {
-                Due.is(a + "|" + b, Due.due("t|h", a, b, 0), a == 0 && b == 0 ? 0 : 1);
-                Due.is(a + "&" + b, Due.due("t&h", a, b, 0), a == 0 || b == 0 ? 0 : 1);
-                Due.is(a + "<" + b, Due.due("t<h", a, b, 0), a < b ? 1 : 0);
-                Due.is(a + "=" + b, Due.due("t=h", a, b, 0), a == b ? 1 : 0);
-                Due.is(a + ">" + b, Due.due("t>h", a, b, 0), a > b ? 1 : 0);
+                Due.is(a + "|" + b, Due.due("5+(t|h)", a, b, 0), a == 0 && b == 0 ? 5 : 6);
+                Due.is(a + "&" + b, Due.due("5+(t&h)", a, b, 0), a == 0 || b == 0 ? 5 : 6);
+                Due.is(a + "<" + b, Due.due("5+(t<h)", a, b, 0), a < b ? 6 : 5);
+                Due.is(a + "=" + b, Due.due("5+(t=h)", a, b, 0), a == b ? 6 : 5);
+                Due.is(a + ">" + b, Due.due("5+(t>h)", a, b, 0), a > b ? 6 : 5);
             }
         }
         Due.is("1, not what is true", Due.fee("(7|0)+(7&8)*10+!0*20+(2<9)*40", 0, 0, 0), 71);
@@ -325,6 +326,10 @@ final class TextBounds {
         Due.is("a shorter one in place of a longer", Due.text(x, 0, "1+2*3+4"), 1);
         Due.is("a shorter one in place of a longer", Due.text(x, 0, "m"), 1);
         Due.is("law", x.law(0, 1, 2, 3), 3);
+        for (int i = 0; i < 8; i++) {
+            Due.is("a long one in place of a long one", Due.text(x, 1, i + times("+1", 29)), 1);
+            Due.is("law", x.law(1, 0, 0, 0), 29 + i);
+        }
         Due.says(15, "BEYOND (THE TAPE stays).");
         x.feed('5', 1);
         Due.is("text -1", x.text(-1), Due.BEYOND);
@@ -366,6 +371,11 @@ final class TextBounds {
             Due.is("law", x.law(use, 5, 6, 5), 5);
             Due.is("the other USE", x.law(1 - use, 5, 6, 5), use == 0 ? 7 : 5);
         }
+        Due.text(x, 0, "4");
+        Due.text(x, 1, "3");
+        Due.is("of 1", x.untell(1), 1);
+        Due.is("that of 0 stays", x.law(0, 5, 5, 5), 4);
+        Due.is("of 0", x.untell(0), 1);
         Due.is("one again", Due.text(x, 1, "6"), 1);
         Due.is("law", x.law(1, 5, 5, 5), 6);
         Due.says(16, "BEYOND.");

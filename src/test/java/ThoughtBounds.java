@@ -241,7 +241,11 @@ final class ThoughtBounds {
         isRow("one: GLASS 0", y, 58, 0, 1);
         isRow("one: GLASS 1 throws left", y, 1, 1, 1);
         isRow("one: GLASS 0 alone, for 58 throws right as it is", y, 63, 0, 1);
-        isRow("two: GLASSES 0 and 2, TURN 0 first", y, 56, 0, 1, 2, 0);
+        isRow("two: GLASSES 0 and 2, TURN 0 of the other", y, 56, 0, 1, 2, 0);
+        y.spin(0, 3);
+        y.spin(1, 3);
+        isRow("two: both by TURN 0", y, 3, 0, 0, 1, 0);
+        isRow("two: TURN 0 and TURN 1", y, 1, 0, 0, 1, 1);
     }
 
     private static void spinsErrors() {
@@ -276,8 +280,10 @@ final class ThoughtBounds {
         int[][][] glasses = {
             {}, {{3, 30, 0}}, {{60, 0, 2}, {61, 30, 0}}, {{3, 30, 0}, {5, 30, 0}}, {{46, 40, 3}, {43, 30, 0}},
             {{0, 0, 0}, {7, 0, 1}, {56, 0, 1}, {63, 0, 0}}, {{0, 30, 0}, {7, 30, 0}}, {{0, 30, 0}, {4, 30, 0}},
+            // Up the first column to 8, right to 11, down through the spoon at 27 to a lake, and back to the spoon for ever.
+            {{8, 0, 0}, {11, 0, 1}, {27, 10, 3}, {43, 30, 0}},
         };
-        int[][] odds = {{0, 1}, {0, 1}, {1, 128}, {1, 64}, {11, 256}, {7, 32}, {7, 128}, {1, 32}};
+        int[][] odds = {{0, 1}, {0, 1}, {1, 128}, {1, 64}, {11, 256}, {7, 32}, {7, 128}, {1, 32}, {15, 256}};
         for (int i = 0; i < glasses.length; i++) {
             GlassTax x = street(glasses[i]);
             Due.is("odds 0 of " + i, x.odds(0), odds[i][0]);

@@ -73,6 +73,8 @@ final class VoiceBounds {
         kind(3, 12, 24, (5 + 2) * 2 - 7, 2);
         Due.says(0, "Bowl: 50 gleams: super.gleams(x) * 3. 51 fades: super.fades(x) ^ k.");
         kind(4, (12 - 4) * 3, (12 - 4) * 3 * 2, (12 - 4) * 3 * 2 - 7 ^ 2, 2 + (1 + 2 - 4) * 3 * 2);
+        Due.is("fades of a bowl where bits meet", says(2, 4, 5, 2, 10), 43 ^ 2);
+        Due.is("fades of a bowl, 7 in 7", says(7, 4, 1, 2, -2), (-2 + 7 - 4) * 6 - 1 ^ 7);
         Due.says(0, "Lamped: 60 glints: super.glints(x + 1).");
         kind(5, 12, -26, -26 - 7, 2);
         Due.says(0, "Silvered: 70 gleams: 9. 71 glints: super.glints(x) + m.");
