@@ -1,6 +1,6 @@
 /** The boundary cases of promises 21 to 23, and of what the Terms say of a LOOK, EVER and TAX. */
 final class LookBounds {
-    /** GLASSES that throw a LOOK from 17 by the right through as many CELLS as it may be in and yet ENDS. */
+    /** GLASSES that throw a LOOK from 17 by the right through 95 CELLS, the most that a search found, and yet it ENDS. */
     private static final int[][] LONG = {{48, 30, 0}, {7, 40, 0}, {63, 0, 0}, {17, 40, 3}, {22, 0, 1}, {54, 0, 0}, {57, 0, 1},
         {0, 0, 0}};
 
