@@ -3,12 +3,13 @@ import java.nio.charset.StandardCharsets;
 import java.nio.file.Files;
 import java.nio.file.Path;
 
-/** ../shared/DOC.md by sections, 0 the Terms and 1 to 41 the promises, and what of each the tests have quoted. */
+/** ../shared/DOC.md by sections, 0 the Terms, 1 to 41 the promises, 42 'What it is', and what of each the tests quoted. */
 final class Doc {
     static final int TERMS = 0;
-    private static final int PROMISES = 41;
-    private static final String[] SECTIONS = new String[PROMISES + 1];
-    private static final boolean[][] QUOTED = new boolean[PROMISES + 1][];
+    static final int PROMISES = 41;
+    static final int WHAT_IT_IS = PROMISES + 1;
+    private static final String[] SECTIONS = new String[WHAT_IT_IS + 1];
+    private static final boolean[][] QUOTED = new boolean[SECTIONS.length][];
 
     private Doc() {
     }
@@ -42,20 +43,29 @@ final class Doc {
         return SECTIONS.length;
     }
 
+    static String name(int section) {
+        return section == TERMS ? "Terms" : section == WHAT_IT_IS ? "What it is" : "promise " + section;
+    }
+
+    /** The document whole, line by line. */
+    static String all() {
+        try {
+            return new String(Files.readAllBytes(Path.of("../shared/DOC.md")), StandardCharsets.UTF_8);
+        } catch (IOException e) {
+            throw new IllegalStateException("the document is not at ../shared/DOC.md", e);
+        }
+    }
+
     private static void read() {
         if (SECTIONS[0] != null) {
             return;
         }
-        String all;
-        try {
-            all = new String(Files.readAllBytes(Path.of("../shared/DOC.md")), StandardCharsets.UTF_8);
-        } catch (IOException e) {
-            throw new IllegalStateException("the document is not at ../shared/DOC.md", e);
-        }
+        String all = all();
         for (int i = 0; i < SECTIONS.length; i++) {
-            String head = i == TERMS ? "## Terms\n" : "## Promise " + i + ":";
+            boolean isPromise = i >= 1 && i <= PROMISES;
+            String head = isPromise ? "## Promise " + i + ":" : "## " + name(i) + "\n";
             String from = all.substring(all.indexOf(head) + head.length());
-            SECTIONS[i] = i == TERMS ? plain(from.substring(0, from.indexOf("\n## "))) : promise(from);
+            SECTIONS[i] = isPromise ? promise(from) : plain(from.substring(0, from.indexOf("\n## ")));
             QUOTED[i] = new boolean[SECTIONS[i].length()];
         }
     }

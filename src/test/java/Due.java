@@ -15,10 +15,10 @@ final class Due {
     private Due() {
     }
 
-    /** What follows is for a sentence of a promise (of the Terms: 0), word by word as the document has it. */
-    static void says(int promise, String sentence) {
-        said = (promise == Doc.TERMS ? "Terms" : "promise " + promise) + ", '" + sentence + "': ";
-        is("the document has this sentence", Doc.quote(promise, sentence) ? 1 : 0, 1);
+    /** What follows is for a sentence of a promise (or of another section of Doc), word by word as the document has it. */
+    static void says(int section, String sentence) {
+        said = Doc.name(section) + ", '" + sentence + "': ";
+        is("the document has this sentence", Doc.quote(section, sentence) ? 1 : 0, 1);
     }
 
     static void is(String call, long got, long want) {
